@@ -137,6 +137,9 @@ public final class CountTest {
         x.see(3, 1);
         due.is("fits: a STEP that there isn't", 0, x.fits());
         x.see(-1, 0);
+        x.see(3, 1);
+        due.is("fits: a STEP that there isn't, alone", 0, x.fits());
+        x.see(-1, 0);
         x.choose(4);
         x.see(0, 4);
         due.is("fits: a LABEL above n", 0, x.fits());

@@ -63,6 +63,11 @@ public final class EventTest {
             due.is("after(" + what + ")", StairPaths.NONE, x.after(what));
         }
         x.event(-1, 0);
+        x.size(3);
+        x.choose(2);
+        x.event(1, 0);
+        due.is("TURNED nneene", 3, x.after(0));
+        x.event(-1, 0);
         x.size(2);
         x.event(3, 1);
         due.is("LOWERED", 1, x.after(0));

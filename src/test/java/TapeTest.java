@@ -78,7 +78,9 @@ public final class TapeTest {
         due.is("item 59", 1, x.item(0, 59, 3));
         due.is("tape, refused", SIZE, x.tape(0, 0, -1));
         due.is("item 59 stays", 3, x.peek(0, 59));
+        x.item(0, 0, 4);
         due.is("tape anew", 1, x.tape(0, 0, 60));
+        due.is("all 0, the first", 0, x.peek(0, 0));
         due.is("all 0", 0, x.peek(0, 59));
         due.is("tape(0, 4, 0)", 1, x.tape(0, 4, 0));
         due.is("a row of 0 is something", PLACE, x.item(0, 0, 0));
