@@ -86,6 +86,7 @@ public final class TapeTest {
         due.is("a row of 0 is something", PLACE, x.item(0, 0, 0));
         due.is("tape(0, -1, -9)", 1, x.tape(0, -1, -9));
         due.is("nothing again", NOTHING, x.item(0, 0, 0));
+        due.is("nothing to peek at again", StairPaths.NO, x.peek(0, 0));
         due.is("tape(0, -1, 99)", 1, x.tape(0, -1, 99));
     }
 
