@@ -29,7 +29,7 @@ public final class CountTest {
             due.is("counted(0, " + wrong + ", 0, 0)", StairPaths.NONE, x.counted(0, wrong, 0, 0));
         }
         for (int n = 2; n <= 5; n++) {
-            x.size(n);
+            x = Stairs.of(n, 0);
             int all = 0;
             for (int v = 0; v <= 10; v++) {
                 for (int w = 0; w <= 10; w++) {

@@ -8,7 +8,8 @@ import java.util.Random;
 public final class ModelTest {
     private static final Due due = new Due("ModelTest");
     private static final int RUNS = 300;
-    private static final int CALLS = 512;
+    // an object is used for 512 calls; allTold takes 45 of them, a text with what is told behind it 214 at most
+    private static final int CALLS = 512, ALL_TOLD = 45, TEXT = 214;
     private static final int[] FAR = {Integer.MIN_VALUE, Integer.MAX_VALUE, -3, 14, 41, 42, 59, 60, 61, 100, 127, 128};
     private static final long[] LONGS = {Long.MIN_VALUE, Long.MAX_VALUE, 128, 32768, 1L << 31, -1, 256, 65536, 1L << 32};
     private static final String[] CLAUSES = {"map", "turn", "size ", "path ", "up ", "down ", "label "};
@@ -25,8 +26,9 @@ public final class ModelTest {
             Random random = new Random(run);
             StairPaths x = new StairPaths();
             Model model = new Model();
-            for (int done = 0; done < CALLS; ) {
-                if (random.nextInt(100) == 0) {
+            int done = 0;
+            while (done < CALLS - ALL_TOLD) {
+                if (random.nextInt(100) == 0 && done <= CALLS - ALL_TOLD - TEXT) {
                     done += text(x, model, random, run);
                 } else {
                     Method call = calls[random.nextInt(calls.length)];
@@ -40,11 +42,11 @@ public final class ModelTest {
     }
 
     private static void pathsOf(int n) {
-        StairPaths x = new StairPaths();
         Model model = new Model();
-        x.size(n);
         model.size(n);
         for (int path = 0; path < model.told(1); path++) {
+            StairPaths x = Stairs.of(n, 0);
+            model.choose(0);
             String told = "PATH " + path + " of " + n + ": ";
             due.is(told + "choose", model.choose(path), x.choose(path));
             due.is(told + "WAYS", model.ways(path), x.ways(path));
@@ -73,11 +75,10 @@ public final class ModelTest {
     }
 
     private static void figuresOf(int n) {
-        StairPaths x = new StairPaths();
         Model model = new Model();
-        x.size(n);
         model.size(n);
         for (int a = 0; a < 5; a++) {
+            StairPaths x = Stairs.of(n, 0);
             for (int v = -1; v < 12; v++) {
                 due.is("odds above", model.odds(a, v, 0), x.odds(a, v, 0));
                 due.is("odds below", model.odds(a, v, 1), x.odds(a, v, 1));
@@ -85,12 +86,13 @@ public final class ModelTest {
             due.is("mean above", model.mean(a, 0), x.mean(a, 0));
             due.is("mean below", model.mean(a, 1), x.mean(a, 1));
             for (int b = 0; b < 5; b++) {
+                x = Stairs.of(n, 0);
                 for (int q = -8; q <= 8; q += 4) {
                     for (int t = -8; t <= 8; t += 2) {
                         due.is("sum " + a + " " + b + " " + q + " " + t, model.sum(a, b, q, t), x.sum(a, b, q, t));
                     }
                 }
-                for (int v = 0; v < 11; v += 1) {
+                for (int v = 0; v < 11; v++) {
                     due.is("counted", model.counted(a, b, v, v / 2), x.counted(a, b, v, v / 2));
                 }
             }
@@ -166,7 +168,7 @@ public final class ModelTest {
         }
         compare(x, model, StairPaths.class.getMethod("read"), new Object[0], run);
         allTold(x, model, run);
-        return text.length() + 1;
+        return text.length() + 1 + ALL_TOLD;
     }
 
     private static String clause(Model model, Random random) {
