@@ -6,6 +6,10 @@ public final class EdgeAnswersTest {
     private static final Due due = new Due("EdgeAnswersTest");
 
     public static void main(String[] args) {
+        due.sentence("NONE (-1) no such number; BAD (-2) a number is not as told; STATE (-3) as told; FULL (-4)",
+            EdgeAnswersTest::answersAsNumbers);
+        due.sentence("NO = Long.MIN_VALUE: There is no such number.", EdgeAnswersTest::answersAsNumbers);
+        due.sentence("the first that a call's words name", EdgeAnswersTest::firstThatIsNamed);
         String refused = "What is answered so changes nothing";
         due.sentence(refused, EdgeAnswersTest::refusedPathCalls);
         due.sentence(refused, EdgeAnswersTest::refusedAskingCalls);
@@ -115,6 +119,46 @@ public final class EdgeAnswersTest {
             long answer = made.on(made(state, "turn;map"));
             changesNothing(call, answer, made, state);
         }
+    }
+
+    // ---- answers
+
+    private static void answersAsNumbers() {
+        StairPaths x = made(FULL, "");
+        due.is("choose(-1)", -1, x.choose(-1));
+        due.is("size(1)", -2, x.size(1));
+        due.is("raise(0)", -3, x.raise(0));
+        due.is("see(0, 1)", -4, x.see(0, 1));
+        due.is("peek(5, 0)", Long.MIN_VALUE, x.peek(5, 0));
+        due.is("item(5, 0, 0)", -11, x.item(5, 0, 0));
+        due.is("judge(2, 0)", -12, x.judge(2, 0));
+        due.is("item(0, 3, 0)", -13, x.item(0, 3, 0));
+        due.is("tape(0, 0, -1)", -14, x.tape(0, 0, -1));
+    }
+
+    /** Of the calls whose words name two refusals or more, one call each by which the first and a later one hold. */
+    private static void firstThatIsNamed() {
+        StairPaths x = made(FULL, "");
+        Stairs.tell(x, "3214");
+        due.is("LABELS aren't told well", 0, x.told(3));
+        due.is("raise(7), BAD ahead of STATE", -2, x.raise(7));
+        due.is("lower(-1), BAD ahead of STATE", -2, x.lower(-1));
+        due.is("feed(128), BAD ahead of FULL", -2, x.feed(128));
+        due.is("label(4, 1), NONE ahead of STATE", -1, x.label(4, 1));
+        due.is("see(5, 6), NONE ahead of BAD and FULL", -1, x.see(5, 6));
+        due.is("see(0, 6), BAD ahead of FULL", -2, x.see(0, 6));
+        due.is("event(4, 9), NONE ahead of BAD and FULL", -1, x.event(4, 9));
+        due.is("event(0, 9), BAD ahead of FULL", -2, x.event(0, 9));
+        due.is("book(14, 11), NONE ahead of BAD and FULL", -1, x.book(14, 11));
+        due.is("book(0, 11), BAD ahead of FULL", -2, x.book(0, 11));
+        due.is("judge(-1, -1), NONE ahead of CAST", -1, x.judge(-1, -1));
+        due.is("tape(6, 5, -1), NONE ahead of BAD and SIZE", -1, x.tape(6, 5, -1));
+        due.is("tape(0, 5, -1), BAD ahead of SIZE", -2, x.tape(0, 5, -1));
+        due.is("item(6, -1, 0), NONE ahead of NOTHING and PLACE", -1, x.item(6, -1, 0));
+        due.is("item(5, -1, 0), NOTHING ahead of PLACE", -11, x.item(5, -1, 0));
+        due.is("shift(0, 0, 6, 0, -1), NONE ahead of the rest", -1, x.shift(0, 0, 6, 0, -1));
+        due.is("shift(2, 0, 5, 0, -1), NOTHING ahead of CAST and PLACE", -11, x.shift(2, 0, 5, 0, -1));
+        due.is("shift(0, 0, 2, 0, -1), CAST ahead of PLACE", -12, x.shift(0, 0, 2, 0, -1));
     }
 
     // ---- refused calls

@@ -11,6 +11,7 @@ public final class EdgePathsTest {
     }
 
     private static void terms() {
+        due.sentence("PATHS: rows of n STEPS n (up) and n STEPS e (along)", EdgePathsTest::noFewerUps);
         due.sentence("in any order by which among the first k of them (for each k) there are no fewer n than e",
             EdgePathsTest::noFewerUps);
         due.sentence("They are numbered from 0 as words, n ahead of e", EdgePathsTest::numberedAsWords);
@@ -29,6 +30,7 @@ public final class EdgePathsTest {
 
     private static void newObjectAndSize() {
         due.sentence("n 3, CHOSEN is PATH 0.", EdgePathsTest::newObject);
+        due.sentence("CHOSEN: a PATH (0 at first)", EdgePathsTest::newObject);
         due.sentence("n (2 .. 5; 3 at first)", EdgePathsTest::eachSize);
         due.sentence("n becomes this; CHOSEN is PATH 0, LABELS 1, 2, ..: what it was. BAD.", EdgePathsTest::sizeTooSmall);
         due.sentence("n becomes this; CHOSEN is PATH 0, LABELS 1, 2, ..: what it was. BAD.", EdgePathsTest::sizeTooLarge);

@@ -37,6 +37,7 @@ public final class EdgeTapesTest {
 
     private static void tape() {
         due.sentence("TAPES 0 .. 5 hold nothing (at first)", EdgeTapesTest::tapesAtFirst);
+        due.sentence("TAPES 0 .. 5 hold nothing (at first), or a row", EdgeTapesTest::tapesHoldARowEach);
         String words = "A TAPE becomes a row of n (0 .. 60) of a sort, all 0, or holds nothing";
         due.sentence(words, EdgeTapesTest::tapeOfNoneAndOfAll);
         due.sentence(words, EdgeTapesTest::tapeAllZeros);
@@ -84,6 +85,7 @@ public final class EdgeTapesTest {
         due.sentence("NONE: tapes; NOTHING; CAST: of unlike sorts", EdgeTapesTest::shiftNoTapes);
         due.sentence("NONE: tapes; NOTHING; CAST: of unlike sorts", EdgeTapesTest::shiftNothing);
         due.sentence("NONE: tapes; NOTHING; CAST: of unlike sorts", EdgeTapesTest::shiftUnlikeSorts);
+        due.sentence("CAST (-12): another sort", EdgeTapesTest::shiftUnlikeSorts);
         due.sentence("PLACE: n, i or j is below 0, or beyond either's end.", EdgeTapesTest::shiftBelow);
         due.sentence("PLACE: n, i or j is below 0, or beyond either's end.", EdgeTapesTest::shiftBeyondTheEnd);
         due.sentence("PLACE: n, i or j is below 0, or beyond either's end.", EdgeTapesTest::shiftFarBeyondTheEnd);
@@ -108,6 +110,7 @@ public final class EdgeTapesTest {
             due.is("judge of sort " + sort, Stairs.CAST, x.judge(0, 0));
             due.is("judge of an empty row of sort " + sort, Stairs.CAST, x.judge(5, 0));
             due.is("judge behind the end of sort " + sort, Stairs.CAST, x.judge(0, 2));
+            due.is("judge from below 0 of sort " + sort, Stairs.CAST, x.judge(0, -1));
         }
     }
 
@@ -239,6 +242,20 @@ public final class EdgeTapesTest {
         }
     }
 
+    private static void tapesHoldARowEach() {
+        StairPaths x = new StairPaths();
+        for (int tape = 0; tape < 6; tape++) {
+            Stairs.tape(x, tape, tape % 5, tape == BOOLEANS ? 1 : tape + 2, 0);
+        }
+        for (int tape = 0; tape < 6; tape++) {
+            due.is("TAPE " + tape, tape == BOOLEANS ? "1 0" : tape + 2 + " 0", Stairs.items(x, tape));
+        }
+        x.tape(3, -1, 0);
+        due.is("TAPE 3", "", Stairs.items(x, 3));
+        due.is("TAPE 2", "4 0", Stairs.items(x, 2));
+        due.is("TAPE 5", "7 0", Stairs.items(x, 5));
+    }
+
     private static void tapeOfNoneAndOfAll() {
         for (int sort = BYTES; sort <= BOOLEANS; sort++) {
             StairPaths x = new StairPaths();
@@ -266,6 +283,14 @@ public final class EdgeTapesTest {
             x.tape(0, -1, 0);
             x.tape(0, (sort + 1) % 5, 4);
             due.is("a row of another sort", "0 0 0 0", Stairs.items(x, 0));
+            x.tape(0, sort, 60);
+            for (int i = 0; i < 60; i++) {
+                x.item(0, i, 1);
+            }
+            x.tape(0, sort, 60);
+            for (int i = 0; i < 60; i++) {
+                due.is("item " + i + " of the longest row", 0, x.peek(0, i));
+            }
         }
     }
 
@@ -382,32 +407,38 @@ public final class EdgeTapesTest {
     }
 
     private static void itemFirstAndLast() {
-        StairPaths x = new StairPaths();
-        x.tape(0, SHORTS, 3);
-        due.is("item(0, 0, 4)", 1, x.item(0, 0, 4));
-        due.is("item(0, 2, 6)", 1, x.item(0, 2, 6));
-        due.is("the row", "4 0 6", Stairs.items(x, 0));
+        for (int sort = BYTES; sort <= BOOLEANS; sort++) {
+            StairPaths x = new StairPaths();
+            x.tape(0, sort, 3);
+            due.is("the first item of sort " + sort, 1, x.item(0, 0, 1));
+            due.is("the last item of sort " + sort, 1, x.item(0, 2, 1));
+            due.is("the row", "1 0 1", Stairs.items(x, 0));
+        }
     }
 
     private static void itemBelow() {
-        StairPaths x = new StairPaths();
-        Stairs.tape(x, 0, SHORTS, 7, 8, 9);
-        for (int i : BELOW) {
-            due.is("item(0, " + i + ", 1)", Stairs.PLACE, x.item(0, i, 1));
+        for (int sort = BYTES; sort <= BOOLEANS; sort++) {
+            StairPaths x = new StairPaths();
+            Stairs.tape(x, 0, sort, 1, 0, 1);
+            for (int i : BELOW) {
+                due.is("item(0, " + i + ", 0) of sort " + sort, Stairs.PLACE, x.item(0, i, 0));
+            }
+            due.is("the row", "1 0 1", Stairs.items(x, 0));
         }
-        due.is("the row", "7 8 9", Stairs.items(x, 0));
     }
 
     private static void itemBehind() {
-        StairPaths x = new StairPaths();
-        x.tape(0, SHORTS, 60);
-        Stairs.tape(x, 0, SHORTS, 7, 8, 9);
-        for (int i : new int[] {3, 4, 59, 60, 256, Stairs.MAX}) {
-            due.is("item(0, " + i + ", 1)", Stairs.PLACE, x.item(0, i, 1));
+        for (int sort = BYTES; sort <= BOOLEANS; sort++) {
+            StairPaths x = new StairPaths();
+            x.tape(0, sort, 60);
+            Stairs.tape(x, 0, sort, 0, 1, 0);
+            for (int i : new int[] {3, 4, 59, 60, 256, Stairs.MAX}) {
+                due.is("item(0, " + i + ", 1) of sort " + sort, Stairs.PLACE, x.item(0, i, 1));
+            }
+            due.is("the row", "0 1 0", Stairs.items(x, 0));
+            x.tape(0, sort, 5);
+            due.is("a longer row", "0 0 0 0 0", Stairs.items(x, 0));
         }
-        due.is("the row", "7 8 9", Stairs.items(x, 0));
-        x.tape(0, SHORTS, 5);
-        due.is("a longer row", "0 0 0 0 0", Stairs.items(x, 0));
     }
 
     private static void itemOfNothing() {
@@ -444,21 +475,25 @@ public final class EdgeTapesTest {
     }
 
     private static void peekBelow() {
-        StairPaths x = new StairPaths();
-        Stairs.tape(x, 0, LONGS, 7, 8);
-        for (int i : BELOW) {
-            due.is("peek(0, " + i + ")", StairPaths.NO, x.peek(0, i));
+        for (int sort = BYTES; sort <= BOOLEANS; sort++) {
+            StairPaths x = new StairPaths();
+            Stairs.tape(x, 0, sort, 1, 1);
+            for (int i : BELOW) {
+                due.is("peek(0, " + i + ") of sort " + sort, StairPaths.NO, x.peek(0, i));
+            }
         }
     }
 
     private static void peekBehind() {
-        StairPaths x = new StairPaths();
-        Stairs.tape(x, 0, LONGS, 7, 8);
-        Stairs.tape(x, 1, LONGS);
-        for (int i : new int[] {2, 3, 59, 60, 256, Stairs.MAX}) {
-            due.is("peek(0, " + i + ")", StairPaths.NO, x.peek(0, i));
+        for (int sort = BYTES; sort <= BOOLEANS; sort++) {
+            StairPaths x = new StairPaths();
+            Stairs.tape(x, 0, sort, 1, 1);
+            Stairs.tape(x, 1, sort);
+            for (int i : new int[] {2, 3, 59, 60, 256, Stairs.MAX}) {
+                due.is("peek(0, " + i + ") of sort " + sort, StairPaths.NO, x.peek(0, i));
+            }
+            due.is("peek of a row of 0", StairPaths.NO, x.peek(1, 0));
         }
-        due.is("peek of a row of 0", StairPaths.NO, x.peek(1, 0));
     }
 
     private static void peekFirstAndLast() {
@@ -521,28 +556,35 @@ public final class EdgeTapesTest {
         }
     }
 
+    private static void shiftWithinOne(int i, int j, int n, String want) {
+        for (int sort = BYTES; sort <= BOOLEANS; sort++) {
+            StairPaths x = new StairPaths();
+            Stairs.tape(x, 0, sort, 1, 0, 1, 1, 0);
+            due.is("shift of sort " + sort + " from " + i + " to " + j, n, x.shift(0, i, 0, j, n));
+            due.is("the row", want, Stairs.items(x, 0));
+        }
+    }
+
     private static void shiftBehindWithinOne() {
+        shiftWithinOne(0, 1, 4, "1 1 0 1 1");
+        shiftWithinOne(0, 2, 3, "1 0 1 0 1");
+        shiftWithinOne(1, 2, 3, "1 0 0 1 1");
         StairPaths x = two(LONGS);
         due.is("shift by 1 behind", 4, x.shift(0, 0, 0, 1, 4));
         due.is("the row", "1 1 2 3 4", Stairs.items(x, 0));
-        x = two(LONGS);
-        due.is("shift by 2 behind", 3, x.shift(0, 0, 0, 2, 3));
-        due.is("the row", "1 2 1 2 3", Stairs.items(x, 0));
     }
 
     private static void shiftAheadWithinOne() {
+        shiftWithinOne(1, 0, 4, "0 1 1 0 0");
+        shiftWithinOne(2, 0, 3, "1 1 0 1 0");
         StairPaths x = two(LONGS);
         due.is("shift by 1 ahead", 4, x.shift(0, 1, 0, 0, 4));
         due.is("the row", "2 3 4 5 5", Stairs.items(x, 0));
-        x = two(LONGS);
-        due.is("shift by 2 ahead", 3, x.shift(0, 2, 0, 0, 3));
-        due.is("the row", "3 4 5 4 5", Stairs.items(x, 0));
     }
 
     private static void shiftOntoItself() {
-        StairPaths x = two(SHORTS);
-        due.is("shift of all onto itself", 5, x.shift(0, 0, 0, 0, 5));
-        due.is("the row", "1 2 3 4 5", Stairs.items(x, 0));
+        shiftWithinOne(0, 0, 5, "1 0 1 1 0");
+        shiftWithinOne(2, 2, 2, "1 0 1 1 0");
     }
 
     // ---- shift refused
@@ -583,42 +625,51 @@ public final class EdgeTapesTest {
         }
     }
 
-    private static void shiftBelow() {
-        StairPaths x = two(BYTES);
-        for (int below : BELOW) {
-            due.is("shift from " + below, Stairs.PLACE, x.shift(0, below, 1, 0, 1));
-            due.is("shift to " + below, Stairs.PLACE, x.shift(0, 0, 1, below, 1));
-            due.is("shift of " + below, Stairs.PLACE, x.shift(0, 0, 1, 0, below));
-            due.is("shift of 0 from " + below, Stairs.PLACE, x.shift(0, below, 1, 0, 0));
-            due.is("shift of 0 to " + below, Stairs.PLACE, x.shift(0, 0, 1, below, 0));
-            due.is("shift within one, of " + below, Stairs.PLACE, x.shift(0, 3, 0, 3, below));
+    /** TAPE 0 has 5 items and TAPE 1 has 3, of each sort in turn. */
+    private static void shiftHasNoPlace(String what, int tape, int i, int other, int j, int n) {
+        for (int sort = BYTES; sort <= BOOLEANS; sort++) {
+            StairPaths x = new StairPaths();
+            Stairs.tape(x, 0, sort, 1, 1, 1, 1, 1);
+            Stairs.tape(x, 1, sort, 0, 0, 0);
+            due.is("shift " + what + ", sort " + sort, Stairs.PLACE, x.shift(tape, i, other, j, n));
+            due.is("the row", "1 1 1 1 1", Stairs.items(x, 0));
+            due.is("the other row", "0 0 0", Stairs.items(x, 1));
         }
-        rowsAreAsTheyWere(x);
+    }
+
+    private static void shiftBelow() {
+        for (int below : BELOW) {
+            shiftHasNoPlace("from " + below, 0, below, 1, 0, 1);
+            shiftHasNoPlace("to " + below, 0, 0, 1, below, 1);
+            shiftHasNoPlace("of " + below, 0, 0, 1, 0, below);
+            shiftHasNoPlace("of 0 from " + below, 0, below, 1, 0, 0);
+            shiftHasNoPlace("of 0 to " + below, 0, 0, 1, below, 0);
+            shiftHasNoPlace("within one, of " + below, 0, 3, 0, 3, below);
+        }
     }
 
     private static void shiftBeyondTheEnd() {
-        StairPaths x = two(BYTES);
-        due.is("shift of 1 beyond the first's end", Stairs.PLACE, x.shift(0, 5, 1, 0, 1));
-        due.is("shift of 3, 1 too many for the first", Stairs.PLACE, x.shift(0, 3, 1, 0, 3));
-        due.is("shift of 1 beyond the other's end", Stairs.PLACE, x.shift(0, 0, 1, 3, 1));
-        due.is("shift of 3, 1 too many for the other", Stairs.PLACE, x.shift(0, 0, 1, 1, 3));
-        due.is("shift of 4, 1 too many for the other", Stairs.PLACE, x.shift(0, 0, 1, 0, 4));
-        due.is("shift within one, 1 too many", Stairs.PLACE, x.shift(0, 0, 0, 1, 5));
-        rowsAreAsTheyWere(x);
+        shiftHasNoPlace("of 1 beyond the first's end", 0, 5, 1, 0, 1);
+        shiftHasNoPlace("of 3, 1 too many for the first", 0, 3, 1, 0, 3);
+        shiftHasNoPlace("of 1 beyond the other's end", 0, 0, 1, 3, 1);
+        shiftHasNoPlace("of 3, 1 too many for the other", 0, 0, 1, 1, 3);
+        shiftHasNoPlace("of 4, 1 too many for the other", 0, 0, 1, 0, 4);
+        shiftHasNoPlace("of 4, 1 too many for the first", 1, 0, 0, 0, 4);
+        shiftHasNoPlace("within one, 1 too many", 0, 0, 0, 1, 5);
+        shiftHasNoPlace("of 0, 1 behind the first's end", 0, 6, 1, 0, 0);
+        shiftHasNoPlace("of 0, 1 behind the other's end", 0, 0, 1, 4, 0);
     }
 
     private static void shiftFarBeyondTheEnd() {
-        StairPaths x = two(BYTES);
         int most = Stairs.MAX;
-        due.is("shift of MAX", Stairs.PLACE, x.shift(0, 0, 1, 0, most));
-        due.is("shift of MAX from 1 and to 1", Stairs.PLACE, x.shift(0, 1, 1, 1, most));
-        due.is("shift from MAX", Stairs.PLACE, x.shift(0, most, 1, 0, 1));
-        due.is("shift from MAX of 2, which would wrap around", Stairs.PLACE, x.shift(0, most, 1, 0, 2));
-        due.is("shift to MAX", Stairs.PLACE, x.shift(0, 0, 1, most, 1));
-        due.is("shift to MAX of 2, which would wrap around", Stairs.PLACE, x.shift(0, 0, 1, most, 2));
-        due.is("shift of 0 from MAX", Stairs.PLACE, x.shift(0, most, 1, 0, 0));
-        due.is("shift, all MAX", Stairs.PLACE, x.shift(0, most, 1, most, most));
-        rowsAreAsTheyWere(x);
+        shiftHasNoPlace("of MAX", 0, 0, 1, 0, most);
+        shiftHasNoPlace("of MAX from 1 and to 1", 0, 1, 1, 1, most);
+        shiftHasNoPlace("from MAX", 0, most, 1, 0, 1);
+        shiftHasNoPlace("from MAX of 2, which would wrap around", 0, most, 1, 0, 2);
+        shiftHasNoPlace("to MAX", 0, 0, 1, most, 1);
+        shiftHasNoPlace("to MAX of 2, which would wrap around", 0, 0, 1, most, 2);
+        shiftHasNoPlace("of 0 from MAX", 0, most, 1, 0, 0);
+        shiftHasNoPlace("all MAX", 0, most, 1, most, most);
     }
 
     private static void shiftInTheirOrder() {

@@ -288,7 +288,7 @@ public final class EdgeTextTest {
 
     private static void wordThatIsNoPath() {
         for (String word : new String[] {"neenne", "eennne", "eeennn", "nneeen", "nnnnee", "nneeee", "nnnnnn", "nnene",
-            "nneneee", "nnnnne", "ne"}) {
+            "nneneee", "nnnnne", "ne", "ennneee", "eeeennneee", "ennene", "nneenen", "nnneeeeeee"}) {
             StairPaths x = Stairs.of("nneene", "312");
             due.is("CLAUSES done of path " + word, 0, Stairs.read(x, "path " + word));
             due.is("CHOSEN", 2, x.told(2));
